@@ -35,6 +35,10 @@ public final class AdviceTest {
         x.bid(1, 0);
         D.due("13: bids made do not matter", x.sure(2), 8);
         D.due("13: the others have none", x.sure(1), Due.NONE);
+        Due.round(x, 0, 0, 7);
+        D.due("13: over again", x.sure(1), Due.IMPOSSIBLE);
+        x.lot(-2);
+        D.due("13: above the first one", x.sure(1), 7);
         HiddenBids y = Due.game(2, 1, 3, 3);
         y.set(2, 0);
         Due.round(y, 1, 0);
@@ -62,6 +66,11 @@ public final class AdviceTest {
         D.due("14: nothing changed", x.playerOf(1, 0), 20);
         D.due("14: nor the bid", x.resolve(), 0);
         D.due("14: of 20", x.roundOf(0, 10), 20);
+        D.due("14: nor the pot", x.playerOf(1, 0), 40);
+        D.due("14: nor what is left there", x.count(4), 0);
+        HiddenBids y = Due.game(2, 10, 5);
+        y.bid(0, 9);
+        D.due("14: all the own coins", y.reply(1), 10);
     }
 
     private static void replyLooksAtCoins() {
@@ -91,12 +100,16 @@ public final class AdviceTest {
 
     private static void replyAmongThree() {
         HiddenBids x = Due.game(3, 10, 4, 4);
-        x.bid(0, 3);
         x.bid(2, 6);
+        D.due("14: the first one is missing", x.reply(1), Due.IMPOSSIBLE);
+        x.bid(0, 3);
         D.due("14: above all others", x.reply(1), 7);
         D.due("14: one is missing", x.reply(0), Due.IMPOSSIBLE);
         x.bid(1, 10);
         D.due("14: a tie is no gain", x.reply(0), 0);
+        HiddenBids four = Due.game(4, 10, 4);
+        for (int player = 0; player < 3; player++) four.bid(player, player);
+        D.due("14: the last of four", four.reply(3), 3);
         HiddenBids y = Due.game(3, 10, 4, -6);
         Due.round(y, 2, 2, 0);
         y.bid(0, 1);
@@ -148,6 +161,18 @@ public final class AdviceTest {
         HiddenBids last = Due.game(2, 20, 5, 8);
         Due.round(last, 6, 2);
         D.due("15: the row may end before", last.holds(1, 2), 3);
+        HiddenBids one = Due.game(2, 5, 0, -2, 1);
+        one.set(2, 0);
+        Due.round(one, 0, 3);
+        // Nobody must take the lot of -2: a tie by 0 carries it, and the two together are not worth a bid.
+        D.due("15: what costs points is carried", one.holds(0, 2), 0);
+        one.undo();
+        one.begin(2, 5);
+        one.lot(0);
+        one.lot(5);
+        one.lot(1);
+        Due.round(one, 0, 3);
+        D.due("15: 5 and 1", one.holds(0, 2), 6);
     }
 
     /** 5 against 2 coins, 3 in the pot, which is not shared, no points, and lots of 5 and 2. */

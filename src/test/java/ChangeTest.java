@@ -104,17 +104,18 @@ public final class ChangeTest {
         }
         D.due("20: the older ones are dropped", x.undo(), Due.IMPOSSIBLE);
         D.due("20: three lots stay", x.count(1), 3);
+        for (int n = 1; n <= 3; n++) x.set(0, n);
         x.lot(9);
-        D.due("20: goes on", x.count(10), 1);
+        D.due("20: goes on", x.count(10), 4);
+        x.set(1, 2);
+        x.set(1, 3);
+        D.due("20: undone again", x.undo(), 3);
+        D.due("20: setting", x.count(21), 2);
         D.due("20: lot", x.lotOf(0, 3), 9);
     }
 
     private static void undoRestoresEverything() {
-        HiddenBids x = Due.game(4, 9, 5, -6, 7, 8);
-        x.set(1, 1);
-        Due.round(x, 2, 2, 0, 1);
-        Due.round(x, 0, 3, 1, 4);
-        for (int player = 0; player < 4; player++) x.bid(player, player);
+        HiddenBids x = midGame();
         int[] before = look(x, 4);
         x.resolve();
         D.due("20: of resolve", x.undo(), 3);
@@ -122,6 +123,7 @@ public final class ChangeTest {
         x.begin(2, 30);
         D.due("20: of begin", x.undo(), 3);
         same("20: of begin", before, look(x, 4));
+        x = midGame();
         x.set(2, 0);
         x.undo();
         same("20: of set", before, look(x, 4));
@@ -133,6 +135,15 @@ public final class ChangeTest {
         x.undo();
         same("20: of play", before, look(x, 4));
         D.due("20: the text is no part of it", x.count(11), 5);
+    }
+
+    private static HiddenBids midGame() {
+        HiddenBids x = Due.game(4, 9, 5, -6, 7, 8);
+        x.set(1, 1);
+        Due.round(x, 2, 2, 0, 1);
+        Due.round(x, 0, 3, 1, 4);
+        for (int player = 0; player < 4; player++) x.bid(player, player);
+        return x;
     }
 
     private static void onlyChangesAreRecorded() {

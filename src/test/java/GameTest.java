@@ -53,15 +53,20 @@ public final class GameTest {
         x.set(1, 3);
         x.keep();
         Due.write(x, "r;");
-        Due.round(x, 4, 4);
         Due.round(x, 5, 2);
+        Due.round(x, 4, 4);
         x.bid(1, 1);
+        D.due("2: something was in the pot", x.count(4), 2);
+        D.due("2: something was on the table", x.count(3), 6);
         D.due("2: again", x.begin(2, 9), 18);
         for (int what = 1; what <= 7; what++) D.due("2: count " + what + " is gone", x.count(what), 0);
         D.due("2: all coins", x.count(8), 18);
         D.due("2: pairs are gone", x.count(9), 0);
         D.due("2: rounds are gone", x.roundOf(0, 0), Due.NONE);
-        for (int what = 1; what <= 5; what++) D.due("2: playerOf " + what + " is gone", x.playerOf(0, what), 0);
+        for (int what = 1; what <= 5; what++) {
+            D.due("2: playerOf " + what + " is gone", x.playerOf(0, what), 0);
+            D.due("2: playerOf " + what + " of the other one", x.playerOf(1, what), 0);
+        }
         D.due("2: the setting stays", x.count(21), 3);
         D.due("2: the text stays", x.count(11), 2);
         D.due("2: the snapshot stays", x.count(12), 1);

@@ -118,6 +118,10 @@ public final class LookTest {
         D.due("10: invalid first", x.record(5, 4), Due.INVALID);
         x.begin(2, 20);
         D.due("10: of this game", x.record(0, 0), Due.NONE);
+        x.lot(1);
+        Due.round(x, 0, 5);
+        D.due("10: counted anew", x.record(0, 2), 1);
+        D.due("10: won anew", x.record(0, 3), 0);
     }
 
     private static void manyPairs() {

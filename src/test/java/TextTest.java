@@ -36,7 +36,9 @@ public final class TextTest {
         D.due("22: the length it had", x.clearText(), 4);
         D.due("22: empty again", x.count(11), 0);
         D.due("22: no fault left", x.fault(0), Due.NONE);
-        D.due("22: begins anew", x.type('r'), 1);
+        D.due("22: begins anew", x.type('l'), 1);
+        x.type('5');
+        D.due("22: what was there is gone", x.fault(1), 1);
         D.due("22: no change", x.undo(), Due.IMPOSSIBLE);
     }
 
