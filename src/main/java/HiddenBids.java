@@ -38,7 +38,7 @@ public final class HiddenBids {
     private final State snapshot = new State();
     private final Text text = new Text();
     private final Outcome outcome = new Outcome();
-    private final Adviser adviser = new Adviser(outcome);
+    private final Adviser adviser = new Adviser();
     private State state = new State();
     private State draft = new State();
     private boolean hasSnapshot;
@@ -601,12 +601,8 @@ public final class HiddenBids {
         static final int LESS_THAN_ALL = -1000000;
         static final int MORE_THAN_ALL = 1000000;
 
-        final Outcome outcome;
+        final Outcome outcome = new Outcome();
         final int[] trial = new int[MOST_PLAYERS];
-
-        Adviser(Outcome outcome) {
-            this.outcome = outcome;
-        }
 
         int bestReply(State state, int player) {
             System.arraycopy(state.bids, 0, trial, 0, MOST_PLAYERS);

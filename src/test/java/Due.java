@@ -47,4 +47,13 @@ final class Due {
         for (int lot : lots) x.lot(lot);
         return x;
     }
+
+    /** A game of two where player 0 has paid a bid for a lot of 0, which is not shared: so player 1 is the richer one. */
+    static HiddenBids poorer(int coins, int bid, int... lots) {
+        HiddenBids x = game(2, coins, 0);
+        for (int lot : lots) x.lot(lot);
+        x.set(2, 0);
+        round(x, bid, 0);
+        return x;
+    }
 }

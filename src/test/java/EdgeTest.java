@@ -1,0 +1,16 @@
+import java.io.IOException;
+
+/** All sentences of the document, each by a test of its own on both sides of its boundaries. */
+public final class EdgeTest {
+    public static void main(String[] args) throws IOException {
+        Edges e = new Edges();
+        TermsEdges.test(e);
+        GameEdges.test(e);
+        LookEdges.test(e);
+        TextEdges.test(e);
+        AdviceEdges.test(e);
+        ChangeEdges.test(e);
+        ErrorEdges.test(e);
+        e.end();
+    }
+}
