@@ -5,12 +5,12 @@ public final class EdgeTest {
     public static void main(String[] args) throws IOException {
         Edges e = new Edges();
         TermsEdges.test(e);
-        GameEdges.test(e);
-        LookEdges.test(e);
-        TextEdges.test(e);
-        AdviceEdges.test(e);
         ChangeEdges.test(e);
         ErrorEdges.test(e);
+        GameEdges.test(e);
+        LookEdges.test(e);
+        AdviceEdges.test(e);
+        TextEdges.test(e);
         e.end();
     }
 }

@@ -98,17 +98,13 @@ final class ErrorEdges {
 
     static void test(Edges e) {
         ErrorEdges edges = new ErrorEdges(e);
-        edges.section();
         edges.order();
         edges.noSuchPlayer();
         edges.changesNothing();
     }
 
-    private void section() {
-        e.section("Changes and errors");
-    }
-
     private void order() {
+        e.section("Changes and errors");
         e.says("If several errors apply to a call, INVALID_ARGUMENT is returned rather than NOT_POSSIBLE");
         HiddenBids over = new HiddenBids();
         e.row("bid(#, 0) without lots", n -> over.bid(n, 0), Due.IMPOSSIBLE, Due.IMPOSSIBLE, Due.INVALID);

@@ -301,6 +301,15 @@ final class LookEdges {
         e.due("of one", x.count(3), 5);
         Due.round(x, 0, 2, 2);
         e.due("of two", x.count(3), -2);
+        for (int value : new int[] {-9, 20}) {
+            HiddenBids all = new HiddenBids();
+            for (int n = 0; n < 20; n++) all.lot(value);
+            for (int n = 1; n <= 20; n++) {
+                Due.round(all, 0, 0);
+                e.due("of " + n + " lots of " + value, all.count(3), n * value);
+                e.due("as the round tells", all.roundOf(0, 2), n * value);
+            }
+        }
         e.says("4: the pot");
         e.due("at first", new HiddenBids().count(4), 0);
         e.due("by two ties", x.count(4), 4);

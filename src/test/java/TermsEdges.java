@@ -296,6 +296,8 @@ final class TermsEdges {
         e.due("points by -9 and -9", twoLots(-9, -9).playerOf(0, 1), -18);
         e.due("points by 20 and 20", twoLots(20, 20).playerOf(0, 1), 40);
         e.due("points of the other one", twoLots(20, 20).playerOf(1, 1), 0);
+        e.due("points by 20 lots of 20", all(20).playerOf(0, 1), 400);
+        e.due("points by 20 lots of -9", all(-9).playerOf(0, 1), -180);
         e.says("and the table is empty then");
         e.due("lots on the table before", carried(2, 1, 0).count(2), 1);
         e.due("lots on the table", twoLots(3, 4).count(2), 0);
@@ -314,6 +316,15 @@ final class TermsEdges {
         HiddenBids x = Due.game(2, 9, 1);
         x.set(2, 0);
         Due.round(x, bid, 0);
+        return x;
+    }
+
+    /** Player 0 wins 20 lots at once. */
+    private static HiddenBids all(int value) {
+        HiddenBids x = new HiddenBids();
+        for (int n = 0; n < 20; n++) x.lot(value);
+        for (int n = 0; n < 19; n++) Due.round(x, 0, 0);
+        Due.round(x, 1, 0);
         return x;
     }
 
