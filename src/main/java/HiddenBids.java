@@ -120,7 +120,8 @@ public final class HiddenBids {
         if (state.players != 2) return NOT_POSSIBLE;
         int held = state.points[player] - state.points[1 - player];
         if (depth == 0 || state.isOver()) return held;
-        return held + adviser.gainByOpenBid(state, player, depth);
+        int bid = adviser.bestOpenBid(state, player, depth);
+        return held + adviser.gainByOpenBid(state, player, bid, depth);
     }
 
     public int holding(int player, int depth) {
@@ -637,8 +638,8 @@ public final class HiddenBids {
             return best;
         }
 
-        int gainByOpenBid(State state, int player, int depth) {
-            return leastGain(state, player, bestOpenBid(state, player, depth), depth, LESS_THAN_ALL);
+        int gainByOpenBid(State state, int player, int bid, int depth) {
+            return leastGain(state, player, bid, depth, LESS_THAN_ALL);
         }
 
         /** Looks no further where the gain is no more than the floor: the bid is no better than another then. */
